@@ -158,7 +158,7 @@ public final class CaretBench {
     }
 
     public boolean step(boolean right) {
-        return right ? here.stepRight() : here.stepLeft();
+        return here.stepOver(right);
     }
 
     public boolean word(boolean on) {
@@ -170,9 +170,9 @@ public final class CaretBench {
         if (shown == 0) {
             here.place(0, WITH_AHEAD);
         } else if (x < 0) {
-            here.toLeftOf(sight.clusterAtPlace(0));
+            here.toSideOf(sight.clusterAtPlace(0), false);
         } else if (x >= sight.width()) {
-            here.toRightOf(sight.clusterAtPlace(shown - 1));
+            here.toSideOf(sight.clusterAtPlace(shown - 1), true);
         } else {
             pickWithin(sight.clusterOver(x), x);
         }
@@ -316,18 +316,10 @@ public final class CaretBench {
     private void pickWithin(int k, int x) {
         int into = x - sight.leftOf(k);
         int width = clusters.widthOf(k);
-        if (!clusters.isJoined(k)) {
-            if (2 * into < width) {
-                here.toLeftOf(k);
-            } else {
-                here.toRightOf(k);
-            }
-        } else if (4 * into < width) {
-            here.toLeftOf(k);
-        } else if (4 * into < 3 * width) {
+        if (clusters.isJoined(k) && 4 * into >= width && 4 * into < 3 * width) {
             here.toMiddleOf(k);
         } else {
-            here.toRightOf(k);
+            here.toSideOf(k, 2 * into >= width);
         }
     }
 
@@ -1019,19 +1011,14 @@ public final class CaretBench {
             return isEven(sight.levelOf(k)) ? sight.rightOf(k) : sight.leftOf(k);
         }
 
-        void toLeftOf(int k) {
-            if (isEven(sight.levelOf(k))) {
-                aheadOf(k);
-            } else {
-                behindOf(k);
+        void toSideOf(int k, boolean right) {
+            if (!clusters.has(k)) {
+                return;
             }
-        }
-
-        void toRightOf(int k) {
-            if (isEven(sight.levelOf(k))) {
-                behindOf(k);
+            if (isEven(sight.levelOf(k)) == right) {
+                place(clusters.endOf(k), WITH_AHEAD);
             } else {
-                aheadOf(k);
+                place(clusters.firstOf(k), WITH_BEHIND);
             }
         }
 
@@ -1041,42 +1028,20 @@ public final class CaretBench {
             }
         }
 
-        private void aheadOf(int k) {
-            if (clusters.has(k)) {
-                place(clusters.firstOf(k), WITH_BEHIND);
-            }
-        }
-
-        private void behindOf(int k) {
-            if (clusters.has(k)) {
-                place(clusters.endOf(k), WITH_AHEAD);
-            }
-        }
-
-        boolean stepRight() {
+        boolean stepOver(boolean right) {
             int around = clusters.joinedAround(stand);
-            int over = around != NONE ? around : sight.clusterWithLeft(x());
+            if (around != NONE) {
+                toSideOf(around, right);
+                return true;
+            }
+            int over = right ? sight.clusterWithLeft(x()) : sight.clusterWithRight(x());
             if (over == NONE) {
                 return false;
             }
-            if (around == NONE && clusters.isJoined(over)) {
+            if (clusters.isJoined(over)) {
                 toMiddleOf(over);
             } else {
-                toRightOf(over);
-            }
-            return true;
-        }
-
-        boolean stepLeft() {
-            int around = clusters.joinedAround(stand);
-            int over = around != NONE ? around : sight.clusterWithRight(x());
-            if (over == NONE) {
-                return false;
-            }
-            if (around == NONE && clusters.isJoined(over)) {
-                toMiddleOf(over);
-            } else {
-                toLeftOf(over);
+                toSideOf(over, right);
             }
             return true;
         }

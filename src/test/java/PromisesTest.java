@@ -345,6 +345,10 @@ public final class PromisesTest {
         due(8, "joined", bench.cluster(1, 5), 0);
         due(8, "which from the left", bench.cluster(2, 6), 3);
         due(8, "which from the left", bench.cluster(3, 6), 2);
+        CaretBench full = bench("A".repeat(60));
+        due(8, "clusters of a full line", full.count(1), 60);
+        due(8, "the last of a full line", full.cluster(59, 0) + " " + full.cluster(59, 3) + " " + full.cluster(59, 6), "59 0 0");
+        due(8, "the first of a full line", full.cluster(0, 3) + " " + full.cluster(0, 6), "590 59");
         due(8, "cluster(0, 7)", bench.cluster(0, 7), -1);
         due(8, "cluster(0, -1)", bench.cluster(0, -1), -1);
         for (int what = 0; what < 7; what++) {
