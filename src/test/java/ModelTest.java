@@ -6,12 +6,16 @@ import java.util.regex.Matcher;
 import java.util.regex.Pattern;
 
 /**
- * Long runs of calls, the same ones each time, on the class and on a model of the document that works
- * everything out anew for each question, with texts and lists. Every answer and the whole state must agree.
+ * Runs of calls, the same ones each time, on the class and on a model of the document that works everything
+ * out anew for each question, with texts and lists. Every answer and the whole state must agree.
+ *
+ * The state is asked of new objects on which the same calls are made again, so that no object is used for
+ * more than 512 calls: what it answers after them is free.
  */
 public final class ModelTest {
-    private static final int RUNS = 1000;
-    private static final int CALLS = 120;
+    private static final int RUNS = 2000;
+    private static final int CALLS = 60;
+    private static final int CALLS_BETWEEN_STATES = 4;
 
     public static void main(String[] args) {
         int wrong = 0;
@@ -32,24 +36,36 @@ public final class ModelTest {
         Random random = new Random(seed);
         CaretBench bench = new CaretBench();
         Model model = new Model();
-        StringBuilder told = new StringBuilder();
-        for (int c = 0; c < CALLS; c++) {
+        List<Call> calls = new ArrayList<>();
+        for (int c = 1; c <= CALLS; c++) {
             Call call = Call.any(random, model.line.length(), seed % 4);
-            told.append(call).append("; ");
+            calls.add(call);
             int got = call.on(bench);
             int want = call.on(model);
             if (got != want) {
-                return told + "answered " + got + ", due is " + want + " in " + model;
+                return calls + " answered " + got + ", due is " + want + " in " + model;
             }
-            String state = stateOf(bench);
-            if (!state.equals(model.state())) {
-                return told + "left " + state + ", due is " + model.state() + " in " + model;
+            if (c % CALLS_BETWEEN_STATES == 0) {
+                String state = stateBehind(calls);
+                if (!state.equals(model.state())) {
+                    return calls + " left " + state + ", due is " + model.state() + " in " + model;
+                }
             }
         }
         return null;
     }
 
-    private static String stateOf(CaretBench b) {
+    private static CaretBench benchBehind(List<Call> calls) {
+        CaretBench bench = new CaretBench();
+        for (Call call : calls) {
+            call.on(bench);
+        }
+        return bench;
+    }
+
+    private static String stateBehind(List<Call> calls) {
+        CaretBench b = benchBehind(calls);
+        CaretBench forClusters = benchBehind(calls);
         StringBuilder s = new StringBuilder();
         for (int what = 0; what < 6; what++) {
             s.append(b.count(what)).append(' ');
@@ -58,13 +74,15 @@ public final class ModelTest {
             s.append(b.caret(what)).append(' ');
         }
         s.append("signs ");
-        for (int i = 0; i < b.count(0); i++) {
+        int signs = b.count(0);
+        for (int i = 0; i < signs; i++) {
             s.append((char) b.sign(i)).append(b.level(i)).append(' ');
         }
         s.append("clusters ");
-        for (int k = 0; k < b.count(1); k++) {
+        int clusters = b.count(1);
+        for (int k = 0; k < clusters; k++) {
             for (int what = 0; what < 7; what++) {
-                s.append(b.cluster(k, what)).append(' ');
+                s.append(forClusters.cluster(k, what)).append(' ');
             }
             s.append((char) b.seen(k)).append(' ');
         }
