@@ -199,20 +199,16 @@ public final class CaretBench {
 
     public int back() {
         int stand = here.stand();
-        if (stand == 0) {
-            return 0;
-        }
         if (Signs.isMark(line.at(stand - 1))) {
             return strike(stand - 1, stand, WITH_BEHIND);
         }
-        int around = clusters.joinedAround(stand);
-        return strikeCluster(around != NONE ? around : clusters.endingAt(stand), WITH_BEHIND);
+        int k = clusters.aroundOrAheadOf(stand);
+        return k == NONE ? 0 : strike(clusters.firstOf(k), clusters.endOf(k), WITH_BEHIND);
     }
 
     public int ahead() {
-        int stand = here.stand();
-        int around = clusters.joinedAround(stand);
-        return strikeCluster(around != NONE ? around : clusters.beginningAt(stand), WITH_AHEAD);
+        int k = clusters.aroundOrBehind(here.stand());
+        return k == NONE ? 0 : strike(clusters.firstOf(k), clusters.endOf(k), WITH_AHEAD);
     }
 
     public boolean type(int sign) {
@@ -263,10 +259,6 @@ public final class CaretBench {
         }
         here.settle(from, side);
         return to - from;
-    }
-
-    private int strikeCluster(int k, int side) {
-        return clusters.has(k) ? strike(clusters.firstOf(k), clusters.endOf(k), side) : 0;
     }
 
     private void appendBytes(int a, int b, int c, int d) {
@@ -398,13 +390,14 @@ public final class CaretBench {
         }
 
         static int widthOf(int sign) {
-            if (isLetter(sign)) {
-                return LETTER_WIDTH;
+            switch (kindOf(sign)) {
+                case FORWARD: case BACKWARD:
+                    return LETTER_WIDTH;
+                case DIGIT:
+                    return DIGIT_WIDTH;
+                default:
+                    return sign == ' ' ? BLANK_WIDTH : OTHER_WIDTH;
             }
-            if (kindOf(sign) == DIGIT) {
-                return DIGIT_WIDTH;
-            }
-            return sign == ' ' ? BLANK_WIDTH : OTHER_WIDTH;
         }
 
         static int mateOf(int sign) {
@@ -615,12 +608,22 @@ public final class CaretBench {
             return valueAt(around, stand, NONE);
         }
 
+        int aroundOrAheadOf(int stand) {
+            int k = joinedAround(stand);
+            return k != NONE ? k : endingAt(stand);
+        }
+
+        int aroundOrBehind(int stand) {
+            int k = joinedAround(stand);
+            return k != NONE ? k : beginningAt(stand);
+        }
+
         boolean isBetween(int stand) {
-            return stand == lastStand || beginningAt(stand) != NONE;
+            return stand == lastStand || valueAt(beginning, stand, NONE) != NONE;
         }
 
         boolean isStand(int stand) {
-            return isBetween(stand) || joinedAround(stand) != NONE;
+            return isBetween(stand) || valueAt(around, stand, NONE) != NONE;
         }
 
         /* The first stand from there on, or none. */

@@ -1,3 +1,12 @@
+import com.sun.source.tree.CompilationUnitTree;
+import com.sun.source.tree.MethodInvocationTree;
+import com.sun.source.tree.MethodTree;
+import com.sun.source.tree.NewArrayTree;
+import com.sun.source.tree.NewClassTree;
+import com.sun.source.util.JavacTask;
+import com.sun.source.util.TreePath;
+import com.sun.source.util.TreePathScanner;
+import com.sun.source.util.Trees;
 import java.lang.reflect.Constructor;
 import java.lang.reflect.Field;
 import java.lang.reflect.Method;
@@ -6,8 +15,15 @@ import java.nio.file.Files;
 import java.nio.file.Path;
 import java.util.ArrayList;
 import java.util.List;
+import java.util.Map;
 import java.util.Set;
+import java.util.TreeMap;
 import java.util.TreeSet;
+import javax.lang.model.element.Element;
+import javax.lang.model.element.ElementKind;
+import javax.tools.JavaCompiler;
+import javax.tools.StandardJavaFileManager;
+import javax.tools.ToolProvider;
 
 /** The rules of LANGUAGE.md that can be looked at from outside, and the document's face. Runs at the project's root. */
 public final class LanguageTest {
@@ -24,6 +40,8 @@ public final class LanguageTest {
     private static final int MOST_FIELDS = 20;
     private static final int MOST_PARAMETERS = 7;
     private static final int MOST_LINES = 60;
+    private static final int MOST_DEEP = 8;
+    private static final Set<String> LIBRARY = Set.of("java.util.Arrays.fill", "java.lang.Math.min", "java.lang.Math.max");
 
     private static int wrong = 0;
 
@@ -40,6 +58,7 @@ public final class LanguageTest {
             lookAtMembers(each);
         }
         lookAtSource(Files.readAllLines(SOURCE));
+        lookAtCalls();
         System.out.println(wrong == 0 ? "the rules are kept" : wrong + " rules are broken");
         if (wrong != 0) {
             System.exit(1);
@@ -118,6 +137,92 @@ public final class LanguageTest {
             if (line.equals("}")) {
                 check(began == 0 || i - began <= MOST_LINES || lines.get(i).startsWith("}"), "line " + (i + 1) + " ends a long method");
             }
+        }
+    }
+
+    /* The public call itself counts, so that the rule holds whichever way its depth is told. */
+    private static void lookAtCalls() throws Exception {
+        Calls calls = new Calls();
+        calls.read();
+        check(calls.called.containsKey("CaretBench.back"), "the calls of back() are not seen");
+        for (String method : calls.called.keySet()) {
+            List<String> chain = calls.longestFrom(method, new ArrayList<>());
+            check(chain.size() <= MOST_DEEP, "calls go " + chain.size() + " deep: " + String.join(" > ", chain));
+        }
+    }
+
+    /** Which method of the source calls which, as the compiler understands it. */
+    private static final class Calls extends TreePathScanner<Void, String> {
+        private final Map<String, Set<String>> called = new TreeMap<>();
+        private Trees trees;
+
+        void read() throws Exception {
+            JavaCompiler compiler = ToolProvider.getSystemJavaCompiler();
+            try (StandardJavaFileManager files = compiler.getStandardFileManager(null, null, null)) {
+                JavacTask task = (JavacTask) compiler.getTask(null, files, null, List.of("-proc:none"), null,
+                    files.getJavaFileObjects(SOURCE));
+                trees = Trees.instance(task);
+                Iterable<? extends CompilationUnitTree> units = task.parse();
+                task.analyze();
+                for (CompilationUnitTree unit : units) {
+                    scan(new TreePath(unit), "");
+                }
+            }
+        }
+
+        List<String> longestFrom(String method, List<String> open) {
+            check(!open.contains(method), method + " calls itself by way of " + open);
+            List<String> longest = new ArrayList<>();
+            if (!open.contains(method)) {
+                List<String> within = new ArrayList<>(open);
+                within.add(method);
+                for (String next : called.getOrDefault(method, Set.of())) {
+                    List<String> chain = longestFrom(next, within);
+                    longest = chain.size() > longest.size() ? chain : longest;
+                }
+            }
+            longest.add(0, method);
+            return longest;
+        }
+
+        @Override
+        public Void visitMethod(MethodTree tree, String ignored) {
+            String name = nameOf(trees.getElement(getCurrentPath()));
+            called.putIfAbsent(name, new TreeSet<>());
+            return super.visitMethod(tree, name);
+        }
+
+        @Override
+        public Void visitMethodInvocation(MethodInvocationTree tree, String caller) {
+            note(caller);
+            return super.visitMethodInvocation(tree, caller);
+        }
+
+        @Override
+        public Void visitNewClass(NewClassTree tree, String caller) {
+            check(caller.endsWith("<init>"), caller + " makes an object");
+            note(caller);
+            return super.visitNewClass(tree, caller);
+        }
+
+        @Override
+        public Void visitNewArray(NewArrayTree tree, String caller) {
+            check(caller.endsWith("<init>"), caller + " makes an array");
+            return super.visitNewArray(tree, caller);
+        }
+
+        private void note(String caller) {
+            String name = nameOf(trees.getElement(getCurrentPath()));
+            if (name.startsWith("CaretBench")) {
+                called.get(caller).add(name);
+            } else if (!name.equals("java.lang.Object.<init>")) {
+                check(LIBRARY.contains(name), caller + " uses " + name);
+            }
+        }
+
+        private static String nameOf(Element method) {
+            boolean makes = method.getKind() == ElementKind.CONSTRUCTOR;
+            return method.getEnclosingElement() + "." + (makes ? "<init>" : method.getSimpleName());
         }
     }
 }
